@@ -1,0 +1,40 @@
+import java.lang.reflect.Field;
+import java.lang.reflect.Member;
+import java.lang.reflect.Method;
+import java.lang.reflect.Modifier;
+import java.util.TreeSet;
+
+/** The public face: the constants, one constructor, the methods, and nothing else to be seen. */
+public final class FaceTest {
+    private static final String METHODS = "act again age alterRow back bare branch cut cutFor"
+        + " cutsFor does feed fits forceFor freeFor graft harvest hope item judge keep kindFor lawOf"
+        + " many mind minds odds of prove put regret ripe row seed set sheet shelf state stem taken"
+        + " trace tree winters year years";
+
+    public static void main(String[] args) {
+        Check.due("BAD", LastPruned.BAD, -1);
+        Check.due("FULL", LastPruned.FULL, -2);
+        Check.due("NONE", LastPruned.NONE, -3);
+        Check.due("constructors", LastPruned.class.getDeclaredConstructors().length, 1);
+        Check.due("final", Modifier.isFinal(LastPruned.class.getModifiers()) ? 1 : 0, 1);
+        TreeSet<String> names = new TreeSet<>();
+        for (Method m : LastPruned.class.getDeclaredMethods()) {
+            if (isSeen(m)) {
+                names.add(m.getName());
+            } else {
+                boolean isTaken = (" " + METHODS + " ").contains(" " + m.getName() + " ");
+                Check.due("private method with a public name: " + m.getName(), isTaken ? 1 : 0, 0);
+            }
+        }
+        Check.due("methods: " + names, String.join(" ", names).equals(METHODS) ? 1 : 0, 1);
+        for (Field f : LastPruned.class.getDeclaredFields()) {
+            boolean isConstant = "BAD FULL NONE".contains(f.getName());
+            Check.due("field to be seen: " + f.getName(), isSeen(f) ? 1 : 0, isConstant ? 1 : 0);
+        }
+        Check.end();
+    }
+
+    private static boolean isSeen(Member m) {
+        return !Modifier.isPrivate(m.getModifiers()) && !m.isSynthetic();
+    }
+}
