@@ -142,6 +142,8 @@ public final class BranchesTest {
         Check.due("8: those that don't STAND don't hinder", x.does(5, 1), 1000 + 8 - 3);
         Check.due("8: nor load", x.does(2, 1), 1000 + 5 + 1);
         graftBearsByYears();
+        LastPruned loaded = Check.ofText("limb force 9 age 20; branch on 0; branch on 0 cut; branch on 1; branch on 0;");
+        Check.due("8: limb with two ON it", loaded.does(0, 1), 1000 + 9 - 2 - 2);
         Check.due("8: does(7, 0)", x.does(7, 0), LastPruned.BAD);
         Check.due("8: does(-1, 0)", x.does(-1, 0), LastPruned.BAD);
         Check.due("8: does(0, 3)", x.does(0, 3), LastPruned.BAD);
@@ -240,7 +242,11 @@ public final class BranchesTest {
         Check.due("14: LIES 0 then", x.of(1, 5), 0);
         Check.due("13: once more", x.cut(1), 2);
         Check.due("13: LIES 0", x.of(1, 5), 0);
-        x.years(6);
+        x.years(5);
+        Check.due("19: not BURNT at 5", x.state(5) + x.many(3), 0);
+        x.years(1);
+        Check.due("19: BURNT at 6", x.state(5), 1 << 1);
+        Check.due("44: BURNT at 6", x.many(3), 1);
         Check.due("14: BURNT", x.back(1), LastPruned.NONE);
         Check.due("13: BURNT", x.cut(1), LastPruned.NONE);
         x.years(9);
@@ -264,6 +270,11 @@ public final class BranchesTest {
         for (int what = 0; what < 6; what++) {
             Check.due("19: state(" + what + ")", x.state(what), state[what]);
         }
+        LastPruned first = Check.ofText("branch cut; branch;");
+        first.years(6);
+        Check.due("19: the first is BURNT", first.state(5), 1);
+        Check.told(first, "branch force 5;");
+        Check.due("19: FORCE of those there are", first.state(4), 5);
         Check.due("19: state(6)", x.state(6), LastPruned.BAD);
         Check.due("19: state(-1)", x.state(-1), LastPruned.BAD);
         x.prove(0, 3);

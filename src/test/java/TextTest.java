@@ -8,6 +8,7 @@ public final class TextTest {
         faults();
         faultsOfNumbers();
         faultsAtTheEnd();
+        noBytesOfEarlierTexts();
         aNinth();
         faultsChangeNothing();
         Check.end();
@@ -59,12 +60,12 @@ public final class TextTest {
 
     private static void byItselfAlone() {
         LastPruned x = Check.ofText("branch force 5; bud force 5 cut; shade 5; sun 5; rain 5; frost 5;");
-        x.seed(99);
         x.years(3);
         x.prove(0, 4);
         x.sheet(1, 2, 3);
         x.shelf(2, 1, 1);
         x.keep();
+        x.seed(99);
         Check.due("3: another", Check.told(x, "spur; branch;"), 2);
         Check.due("3: YEAR", x.state(0), 0);
         Check.due("3: CROP", x.state(1), 0);
@@ -129,6 +130,11 @@ public final class TextTest {
         told("branch \u00e9;", -107);
         told("branchs;", -100);
         told("buds;", -100);
+        told("budz;", -100);
+        told("bud{;", -103);
+        told("bud`;", -103);
+        told("bud force 5/", -111);
+        told("bud force 5:", -111);
     }
 
     private static void faultsOfNumbers() {
@@ -163,6 +169,19 @@ public final class TextTest {
         told("branch; spu", -108);
         told("branch forc", -107);
         told("branch force 12", -113);
+    }
+
+    /** Bytes of an earlier, longer text must not come into a later one. */
+    private static void noBytesOfEarlierTexts() {
+        LastPruned x = new LastPruned();
+        Check.due("3: the earlier", Check.told(x, "spurs;"), -100);
+        Check.due("3: no letter of it", Check.told(x, "spur"), -104);
+        Check.due("3: the earlier", Check.told(x, "spur   ;"), 1);
+        Check.due("3: no blank of it", Check.told(x, "spur"), -104);
+        Check.due("3: the earlier", Check.told(x, "sun 1;"), 0);
+        Check.due("3: no close of it", Check.told(x, "sun 1"), -105);
+        Check.due("3: the earlier", Check.told(x, "frost 12;"), 0);
+        Check.due("3: no digit of it", Check.told(x, "frost 1"), -107);
     }
 
     private static void aNinth() {

@@ -35,7 +35,11 @@ public final class TriedTest {
         Check.due("21: bough that falls off", Check.ofText("bough force 6 age 20;").bare(), 6);
         Check.due("21: CUT ones don't count", Check.ofText("branch force 9 cut; bough force 2 age 30;").bare(), 2);
         Check.due("21: nor those ON them", Check.ofText("branch cut; branch on 0 force 9;").bare(), 0);
-        // an old bough of 9 and AGE 0 lives 20 YEARS at 9, then falls by one a YEAR
+        LastPruned x = Check.ofText("bough force 6 age 20;");
+        x.harvest(6);
+        Check.due("21: from how it is now", x.bare(), 6);
+        Check.due("22: from how it is now", Check.ofText("branch force 7;").ripe(0), 2);
+        // a bough of 9 and AGE 0 lives 20 YEARS at 9, then falls by one a YEAR
         Check.due("21: behind many", Check.ofText("bough force 9;").bare(), 29);
     }
 
@@ -72,6 +76,7 @@ public final class TriedTest {
             Check.due("23: cutFor(" + n + ")", x.cutFor(n), LastPruned.BAD);
         }
         Check.due("23: no BRANCHES", new LastPruned().cutFor(1), LastPruned.NONE);
+        Check.due("23: nothing bears, none STANDS", Check.ofText("branch force 9 cut;").cutFor(1), LastPruned.NONE);
     }
 
     private static void cutsFor() {
@@ -182,6 +187,9 @@ public final class TriedTest {
         // to cut that ON which one is would free it of nothing, as it wouldn't STAND
         x = Check.ofText("limb force 9; branch on 0 force 5; limb on 0 force 9;");
         Check.due("28: not that ON which it is", x.freeFor(1, 5), 1 << 2);
+        // the graft bears 5 + 2 - 3 - 2; the limb keeps 2 off, as two of the branches do, a lesser set
+        x = Check.ofText("shade 0; branch force 3; branch force 3; branch force 3; limb force 4; graft force 5;");
+        Check.due("28: of fewest", x.freeFor(4, 4), 1 << 3);
     }
 
     private static void nothingChanges() {

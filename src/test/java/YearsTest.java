@@ -119,6 +119,23 @@ public final class YearsTest {
         }
         Check.due("17: there was frost", hits > 2 && hits < 12 ? 1 : 0, 1);
         Check.due("17: two draws a YEAR", x.seed(0), z);
+        frostsEdge();
+    }
+
+    /** The second draw leaves just 20, or 19, by 100: no frost by a FROST of 20, or frost. */
+    private static void frostsEdge() {
+        int found = 0;
+        for (int z = 0; z < 2000; z++) {
+            int rest = (next(next(z)) >>> 16) % 100;
+            if (rest == 19 || rest == 20) {
+                found++;
+                LastPruned x = Check.ofText("graft force 9;");
+                x.seed(z);
+                x.year();
+                Check.due("17: rest " + rest, x.of(0, 2), rest == 19 ? 4 : 9);
+            }
+        }
+        Check.due("17: edges were found", found > 10 ? 1 : 0, 1);
     }
 
     private static void winters() {
