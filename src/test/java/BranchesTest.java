@@ -98,6 +98,11 @@ public final class BranchesTest {
         Check.due("6: a ninth", x.branch(0, 0, 0, 0), LastPruned.FULL);
         Check.due("6: a ninth that is BAD", x.branch(0, 9, 0, 0), LastPruned.BAD);
         Check.due("6: eight", x.many(0), 8);
+        for (int b = 0; b < 8; b++) {
+            x.mind(b, 0, 9);
+        }
+        Check.due("19: FORCE of eight", x.state(4), 72);
+        Check.due("19: all eight STAND", x.state(2), 255);
     }
 
     /** HINDERS by kind, force, shade and year, told by a row of what is due for forces 0, 2, 3, 9. */

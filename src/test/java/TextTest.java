@@ -8,6 +8,7 @@ public final class TextTest {
         faults();
         faultsOfNumbers();
         faultsAtTheEnd();
+        fullTapes();
         noBytesOfEarlierTexts();
         aNinth();
         faultsChangeNothing();
@@ -169,6 +170,18 @@ public final class TextTest {
         told("branch; spu", -108);
         told("branch forc", -107);
         told("branch force 12", -113);
+    }
+
+    /** Texts of all the 200 bytes that THE TAPE takes. */
+    private static void fullTapes() {
+        told("bud;" + " ".repeat(196), 1);
+        told(" ".repeat(196) + "bud;", 1);
+        told(" ".repeat(197) + "bud", -300);
+        told(" ".repeat(197) + "sun", -300);
+        told(" ".repeat(195) + "sun 4", -300);
+        told(" ".repeat(194) + "sun 55", -298);
+        told(" ".repeat(199) + "b", -299);
+        told("sun 4;".repeat(33) + "  ", 0);
     }
 
     /** Bytes of an earlier, longer text must not come into a later one. */
