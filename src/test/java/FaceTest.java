@@ -2,7 +2,11 @@ import java.lang.reflect.Field;
 import java.lang.reflect.Member;
 import java.lang.reflect.Method;
 import java.lang.reflect.Modifier;
+import java.nio.file.Files;
+import java.nio.file.Path;
 import java.util.TreeSet;
+import java.util.regex.Matcher;
+import java.util.regex.Pattern;
 
 /** The public face: the constants, one constructor, the methods, and nothing else to be seen. */
 public final class FaceTest {
@@ -11,7 +15,7 @@ public final class FaceTest {
         + " many mind minds odds of prove put regret ripe row seed set sheet shelf state stem taken"
         + " trace tree winters year years";
 
-    public static void main(String[] args) {
+    public static void main(String[] args) throws Exception {
         Check.due("BAD", LastPruned.BAD, -1);
         Check.due("FULL", LastPruned.FULL, -2);
         Check.due("NONE", LastPruned.NONE, -3);
@@ -31,7 +35,26 @@ public final class FaceTest {
             boolean isConstant = "BAD FULL NONE".contains(f.getName());
             Check.due("field to be seen: " + f.getName(), isSeen(f) ? 1 : 0, isConstant ? 1 : 0);
         }
+        signatures();
         Check.end();
+    }
+
+    /** Each line of "The public face" has its method, with the same types. */
+    private static void signatures() throws Exception {
+        TreeSet<String> due = new TreeSet<>();
+        Matcher line = Pattern.compile("public (int|long) (\\w+)\\(([^)]*)\\);").matcher(Files.readString(Path.of("../shared/DOC.md")));
+        while (line.find()) {
+            due.add(line.group(1) + " " + line.group(2) + "(" + line.group(3).replaceAll(" \\w+(,|$)", "$1").replace(" ", "") + ")");
+        }
+        TreeSet<String> got = new TreeSet<>();
+        for (Method m : LastPruned.class.getDeclaredMethods()) {
+            if (isSeen(m)) {
+                String types = m.toString().replaceAll(".*\\(|\\).*", "");
+                got.add(m.getReturnType() + " " + m.getName() + "(" + types + ")");
+                Check.due("public: " + m, m.getModifiers(), Modifier.PUBLIC);
+            }
+        }
+        Check.due("signatures: " + got + " / " + due, got.equals(due) && due.size() == 45 ? 1 : 0, 1);
     }
 
     private static boolean isSeen(Member m) {

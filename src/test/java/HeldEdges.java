@@ -153,7 +153,11 @@ final class HeldEdges {
             .due("i 4 of four, n 0", Whole.few().minds(0, 4, 0, 0), 0)
             .due("i 3 of four, n 1", Whole.few().minds(0, 3, 0, 1), 1)
             .due("i 0 of four, n 4", Whole.few().minds(0, 0, 0, 4), 4)
-            .refuses("BAD before -11", BAD, y -> y.minds(2, 0, 3, 3))
+            .refuses("BAD before -11: beyond the last", BAD, y -> y.minds(2, 0, 3, 3))
+            .refuses("BAD before -11: n -1", BAD, y -> y.minds(2, 0, 0, -1))
+            .refuses("BAD before -13: n -1", BAD, y -> y.minds(1, 0, 1, -1))
+            .refuses("BAD before -12: n -1", BAD, y -> y.minds(0, 9, 1, -1))
+            .refuses("BAD before -11: n 9", BAD, Whole::full, y -> y.minds(2, 0, 0, 9))
             .due("none there", new LastPruned().minds(0, 0, 0, 0), BAD);
     }
 

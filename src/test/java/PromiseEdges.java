@@ -76,6 +76,7 @@ final class PromiseEdges {
             .due("FAULT 199", Check.told(x, " ".repeat(199) + "x"), -299)
             .due("FAULT 200, the end", Check.told(x, " ".repeat(195) + "sun 4"), -300)
             .due("eight stay", x.many(0), 8);
+        othersStay();
         LastPruned faulty = Whole.few("twig");
         Sentence.of(3, "There are no ROWS then.")
             .due("ROWS before", Whole.few().many(4), 3)
@@ -89,6 +90,21 @@ final class PromiseEdges {
             .due("none to be altered", none.alterRow(0, 0, 1), -9)
             .due("all is right", none.judge(0), 0)
             .due("some once more", none.prove(0, 2) == 2 ? none.many(4) : -1, 2);
+    }
+
+    /** What is no part of the tree outlives tree(). */
+    private static void othersStay() {
+        LastPruned x = Whole.few("bud; bud;");
+        Sentence.of(3, "THE TAPE becomes all: how many BRANCHES;")
+            .due("two", x.tree(), 2)
+            .due("SHEETS stay", x.item(0, 0, 3), 12)
+            .due("SHELVES stay: a row", x.taken(1, 10), 4)
+            .due("SHELVES stay: number 1, a bud now", x.taken(0, 3), 1)
+            .due("SHELVES stay: no number 3 now", x.taken(3, 0), -11)
+            .due("THE TRACE stays", x.many(6), 4)
+            .due("z stays", x.seed(0), 4711)
+            .due("what is kept stays", x.again(), 1)
+            .due("what is kept: SHADE", x.lawOf(0), 5);
     }
 
     private static int rowsBehindTree(String text) {
@@ -125,6 +141,7 @@ final class PromiseEdges {
             .due("ON one that is CUT", x.branch(0, 3, 1, 1), 7)
             .due("it is not CUT", x.of(7, 4), 0)
             .due("LIES 0", x.of(7, 5), 0)
+            .due("LIES 0 where a BURNT one was", lainBefore(), 0)
             .due("but doesn't STAND", x.of(7, 6), 0)
             .due("KIND", x.of(6, 0), 5)
             .due("FORCE", x.of(6, 2), 9)
@@ -138,6 +155,17 @@ final class PromiseEdges {
             .refuses("FULL", FULL, Whole::full, y -> y.branch(0, 0, 0, 0))
             .refuses("FULL, ON the eighth", FULL, Whole::full, y -> y.branch(5, 8, 9, 99))
             .refuses("BAD before FULL", BAD, Whole::full, y -> y.branch(0, 9, 0, 0));
+    }
+
+    /** LIES of one that comes in the place of one that was BURNT. */
+    private static int lainBefore() {
+        LastPruned x = Whole.few("");
+        x.harvest(1);
+        x.tree();
+        for (int b = 0; b < 5; b++) {
+            x.branch(0, 0, 0, 0);
+        }
+        return x.of(2, 5) + x.of(4, 5);
     }
 
     private static void of() {

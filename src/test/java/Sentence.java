@@ -2,6 +2,7 @@ import java.io.IOException;
 import java.nio.file.Files;
 import java.nio.file.Path;
 import java.util.ArrayList;
+import java.util.Arrays;
 import java.util.LinkedHashMap;
 import java.util.List;
 import java.util.Map;
@@ -122,7 +123,7 @@ final class Sentence {
         boolean[] quoted = QUOTED.computeIfAbsent(section, key -> new boolean[text.length()]);
         int first = text.indexOf(words);
         for (int at = first; at >= 0; at = text.indexOf(words, at + 1)) {
-            java.util.Arrays.fill(quoted, at, at + words.length(), true);
+            Arrays.fill(quoted, at, at + words.length(), true);
         }
         return first >= 0;
     }

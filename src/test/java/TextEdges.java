@@ -97,6 +97,8 @@ final class TextEdges {
     private static void allByIt() {
         LastPruned x = Check.ofText("shade 9;sun 9;rain 9;frost 9;bud force 9 age 9 cut;bud on 0 force 8;bud force 9;");
         x.years(7);
+        // what was tried of the old tree must not come into the new one
+        x.harvest(60);
         x.seed(99);
         Sentence.ofTerms("It is all by it alone (what it doesn't tell is as at first); z stays.")
             .due("one", Check.told(x, "spur;"), 1)
@@ -115,7 +117,12 @@ final class TextEdges {
             .due("z", x.seed(0), 99)
             .due("cut once more: LIES", Check.told(x, "bud cut;") == 1 ? x.of(0, 5) : -1, 0)
             .due("nothing told", Check.told(x, ""), 0)
-            .due("no BRANCHES", x.many(0), 0);
+            .due("no BRANCHES", x.many(0), 0)
+            .due("no FORCE", x.state(4), 0)
+            .due("none CUT", x.state(3), 0)
+            .due("one that comes then", x.branch(0, 0, 0, 0), 0)
+            .due("LIES 0", x.of(0, 5), 0)
+            .due("not CUT", x.of(0, 4), 0);
     }
 
     private static void tokens() {
