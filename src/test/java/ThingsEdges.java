@@ -263,5 +263,8 @@ final class ThingsEdges {
         s.due("a row", x.shelf(3, 1, 0), 1).due("of forty", x.taken(3, 10), 40).due("no act of it", x.act(3, 0, 1), 0);
         s.due("a row of none", x.shelf(3, 1, 1) == 1 ? x.taken(3, 13) : -1, 0);
         s.due("nothing once more", x.shelf(3, 2, 0) == 1 ? x.taken(3, 13) : -1, -11);
+        s.due("a row where one was held", x.shelf(0, 1, 0) == 1 ? x.taken(0, 10) : -1, 40);
+        s.due("it is held though there are no BRANCHES", x.tree() == 0 ? x.taken(0, 10) : -1, 40);
+        s.due("a row held at first", x.shelf(1, 1, 1) == 1 ? x.taken(1, 13) : -1, 0);
     }
 }
