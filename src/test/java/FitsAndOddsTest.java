@@ -103,8 +103,8 @@ public final class FitsAndOddsTest {
     }
 
     private static void oddsAddUp() {
-        LastPruned x = new LastPruned();
         for (int frost = 0; frost <= 99; frost++) {
+            LastPruned x = new LastPruned();
             x.set(3, frost);
             long whole = 10000000000000000L;
             long sum = 0;
