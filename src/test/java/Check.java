@@ -1,12 +1,15 @@
-/** What all tests use: counts and prints every answer that is not the one that is due. */
-final class Check {
+/**
+ * What all tests use: counts and prints every answer that is not the one that is due. It is public for
+ * the class that ReadmeTest makes, which another loader loads.
+ */
+public final class Check {
     private static int right = 0;
     private static int wrong = 0;
 
     private Check() {
     }
 
-    static void due(String call, long got, long want) {
+    public static void due(String call, long got, long want) {
         if (got == want) {
             right++;
             return;

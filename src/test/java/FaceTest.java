@@ -36,6 +36,7 @@ public final class FaceTest {
             Check.due("field to be seen: " + f.getName(), isSeen(f) ? 1 : 0, isConstant ? 1 : 0);
         }
         signatures();
+        classesInside();
         Check.end();
     }
 
@@ -55,6 +56,19 @@ public final class FaceTest {
             }
         }
         Check.due("signatures: " + got + " / " + due, got.equals(due) && due.size() == 45 ? 1 : 0, 1);
+    }
+
+    /** Rule 1 of LANGUAGE.md speaks of all private methods; here none inside bears such a name, private or not. */
+    private static void classesInside() {
+        for (Class<?> inside : LastPruned.class.getDeclaredClasses()) {
+            int modifiers = inside.getModifiers();
+            boolean isHidden = !Modifier.isPublic(modifiers) && !Modifier.isProtected(modifiers);
+            Check.due("not to be seen, and static: " + inside, isHidden && Modifier.isStatic(modifiers) ? 1 : 0, 1);
+            for (Method m : inside.getDeclaredMethods()) {
+                boolean isTaken = (" " + METHODS + " ").contains(" " + m.getName() + " ");
+                Check.due("a public method's name inside: " + m, isTaken ? 1 : 0, 0);
+            }
+        }
     }
 
     private static boolean isSeen(Member m) {

@@ -23,6 +23,7 @@ public final class LanguageTest {
         }
         classes(code);
         methods(code);
+        objects(code);
         Check.end();
     }
 
@@ -53,5 +54,14 @@ public final class LanguageTest {
             Check.due("parameters of " + m.group(2), m.group(3).split(",").length <= 7 ? 1 : 0, 1);
         }
         Check.due("methods were seen", methods > 90 ? 1 : 0, 1);
+    }
+
+    /** Rule 12, more strictly: objects and arrays are made by fields alone, as an object is made. */
+    private static void objects(String code) {
+        for (String line : code.split("\n")) {
+            boolean isMaking = line.matches(".*(\\bnew\\b|\\bclone\\(|\\bcopyOf).*");
+            boolean isField = line.matches(" +(private )?(static )?final [\\w\\[\\]]+ \\w+ = .*;");
+            Check.due("made by a field: " + line.trim(), isMaking && !isField ? 1 : 0, 0);
+        }
     }
 }
